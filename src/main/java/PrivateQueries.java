@@ -146,21 +146,7 @@ public final class PrivateQueries {
         if (!hasScript || i < 0 || i >= script.asked()) {
             return UNKNOWN;
         }
-        Question one = script.questionAt(i);
-        switch (what) {
-            case 0:
-                return one.sort;
-            case 1:
-                return one.units();
-            case 2:
-                return one.numbers();
-            case 3:
-                return one.top;
-            case 4:
-                return one.cells();
-            default:
-                return OUTSIDE;
-        }
+        return script.questionAt(i).part(what);
     }
 
     public int wants(int what) {
@@ -171,9 +157,9 @@ public final class PrivateQueries {
             return STATE;
         }
         if (what == 0) {
-            return script.units();
+            return script.all(Question.UNITS);
         }
-        return what == 1 ? script.numbers() : script.cells();
+        return script.all(what == 1 ? Question.NUMBERS : Question.CELLS);
     }
 
     public int run(int asker) {
@@ -183,17 +169,17 @@ public final class PrivateQueries {
         if (!hasScript) {
             return STATE;
         }
-        int units = script.units();
+        int units = script.all(Question.UNITS);
         if (units > purses.leftTo(asker) || units > purses.leftTo(Purses.HOUSE)) {
             return POOR;
         }
-        if (script.cells() > tape.size()) {
+        if (script.all(Question.CELLS) > tape.size()) {
             return SHORT;
         }
         purses.spend(asker, units);
         purses.spend(Purses.HOUSE, units);
         script.work(table, toldNumbers);
-        toldSize = script.numbers();
+        toldSize = script.all(Question.NUMBERS);
         tape.remove(blur());
         return toldSize;
     }
@@ -910,6 +896,7 @@ public final class PrivateQueries {
     /** One question, and what can be reckoned from its own words. */
     private static final class Question {
         static final int COUNT = 0, SUM = 1, BINS = 2;
+        static final int SORT = 0, UNITS = 1, NUMBERS = 2, TOP = 3, CELLS = 4;
 
         int sort;
         int column;
@@ -923,10 +910,10 @@ public final class PrivateQueries {
         int end;
 
         Question() {
-            begin(COUNT);
+            by = 1;
         }
 
-        private void begin(int newSort) {
+        void begin(int newSort) {
             sort = newSort;
             column = 0;
             low = 0;
@@ -937,17 +924,30 @@ public final class PrivateQueries {
             end = 0;
         }
 
-        int units() {
+        int part(int what) {
+            switch (what) {
+                case SORT:
+                    return sort;
+                case UNITS:
+                    return units();
+                case NUMBERS:
+                    return numbers();
+                case TOP:
+                    return top;
+                case CELLS:
+                    return numbers() * (top + 1);
+                default:
+                    return OUTSIDE;
+            }
+        }
+
+        private int units() {
             int divisor = Math.max(by, 1);
             return sort == SUM ? (high + divisor - 1) / divisor : 1;
         }
 
         int numbers() {
             return sort == BINS ? high - low + 1 : 1;
-        }
-
-        int cells() {
-            return numbers() * (top + 1);
         }
 
         /** Adds a row that has this number in the column to the numbers that begin at a place. */
@@ -1049,28 +1049,13 @@ public final class PrivateQueries {
             asked = Math.min(asked + 1, MOST_QUESTIONS);
         }
 
-        int units() {
-            int all = 0;
+        /** Of all questions together: UNITS, NUMBERS or CELLS. */
+        int all(int what) {
+            int sum = 0;
             for (int i = 0; i < asked; i++) {
-                all += questionAt(i).units();
+                sum += questionAt(i).part(what);
             }
-            return all;
-        }
-
-        int numbers() {
-            int all = 0;
-            for (int i = 0; i < asked; i++) {
-                all += questionAt(i).numbers();
-            }
-            return all;
-        }
-
-        int cells() {
-            int all = 0;
-            for (int i = 0; i < asked; i++) {
-                all += questionAt(i).cells();
-            }
-            return all;
+            return sum;
         }
 
         /** Works out the numbers of all questions, without noise. */

@@ -7,7 +7,7 @@ import java.util.regex.Pattern;
 /** Rules of LANGUAGE.md that can be seen in the text of the class. */
 public final class LanguageTest {
     private static final String[] FORBIDDEN = {
-        "\\b(throws?|try|catch|synchronized|assert|protected|package|abstract|default ->)\\b",
+        "\\b(throws?|try|catch|synchronized|assert|protected|package|abstract)\\b",
         "\\bSystem\\.(?!arraycopy\\b)", "Exact\\b", "\\b(hashCode|toString|equals)\\b", "\\b(Thread|Random|Object)\\b",
         "->", "::", "\\b(Integer|Long|Math)\\.[A-Z]", "\\bMath\\.(?!(min|max|abs)\\b)", "\\b(double|float)\\b"};
     /** A method of a class inside is indented by 8, one of the class itself by 4. */

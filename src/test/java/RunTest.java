@@ -12,6 +12,7 @@ public final class RunTest {
         sumsWrap();
         letsOfLets();
         deepConditions();
+        longScripts();
         clampedSums();
         binsFromTheLeast();
         toldWithNoise();
@@ -189,6 +190,20 @@ public final class RunTest {
             + "count where " + "not ".repeat(19) + "a=1 in 1;"));
     }
 
+    /** A condition that fills the text, behind another one that did so and had a fault. */
+    private static void longScripts() {
+        PrivateQueries x = new PrivateQueries(1, 2);
+        x.row(7, 0, 0, 0, 0, 0);
+        x.budget(0, 1);
+        x.budget(4, 1);
+        x.draws(0, 0);
+        String text = "count where a=7" + "+0".repeat(987) + "+0*0 in 1";
+        CHECK.due("without its ;", -1000 - text.length(), Check.read(x, text));
+        CHECK.due("with it", 1, Check.read(x, text + ";"));
+        CHECK.due("run(0)", 1, x.run(0));
+        CHECK.due("told(0)", 1, x.told(0));
+    }
+
     private static void clampedSums() {
         PrivateQueries x = new PrivateQueries(1, 2);
         x.row(3, -1, LEAST, 0, 0, 1);
@@ -201,6 +216,7 @@ public final class RunTest {
         CHECK.due("the ends of int", "13", told(x, "sum c to 10 in 30;"));
         CHECK.due("the sum is divided, and cut", "6", told(x, "sum a to 100 by 4 in 30;"));
         CHECK.due("not each number", "2", told(x, "sum a to 5 by 8 in 30;"));
+        CHECK.due("by 2", "12", told(x, "sum a to 100 by 2 in 30;"));
         CHECK.due("below by", "0", told(x, "sum a to 5 by 1000 in 30;"));
         CHECK.due("by 1", "25", told(x, "sum a to 100 by 1 in 30;"));
         CHECK.due("where", "8 17", told(x, "sum a to 100 where f = 1 in 30; sum a to 100 where f = 2 in 30;"));

@@ -10,6 +10,7 @@ public final class TapeTest {
         numbersAreBroughtToTheirRanges();
         drawsOneOrTwo();
         drawsRefusesWhatIsNoCell();
+        threeThousandAtMost();
         noiseOfBlocks();
         noiseAtTheLimits();
         noiseOutsideAndShort();
@@ -73,6 +74,20 @@ public final class TapeTest {
         CHECK.due("a thousand", 1000, x.count(1));
         CHECK.due("noise(999, 0)", 1, x.noise(999, 0));
         CHECK.due("noise(1000, 0)", PrivateQueries.SHORT, x.noise(1000, 0));
+    }
+
+    /** No promise holds so many calls of one object, but the tape's limit is told all the same. */
+    private static void threeThousandAtMost() {
+        PrivateQueries x = new PrivateQueries(1, 2);
+        for (int i = 0; i < 1499; i++) {
+            x.draws(1, 2);
+        }
+        CHECK.due("2999", 2999, x.draws(5, PrivateQueries.NONE));
+        CHECK.due("two more", PrivateQueries.ROOM, x.draws(1, 1));
+        CHECK.due("outside comes before", PrivateQueries.OUTSIDE, x.draws(1, 6));
+        CHECK.due("3000", 3000, x.draws(5, PrivateQueries.NONE));
+        CHECK.due("one more", PrivateQueries.ROOM, x.draws(1, PrivateQueries.NONE));
+        CHECK.due("the last one", -1, x.noise(2999, 0));
     }
 
     /** P = 2, Q = 5: 0 below 15, above 0 below 25, else below 0; a size goes on below 14. */
