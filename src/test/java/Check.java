@@ -4,25 +4,32 @@ import java.nio.charset.StandardCharsets;
 final class Check {
     private int calls;
     private int wrong;
+    private String sentence = "";
 
-    void due(String call, long want, long got) {
-        calls++;
-        if (got != want) {
-            wrong++;
-            System.out.println(call + " answered " + got + ", due is " + want);
-        }
+    /** The document's words that the checks from here on are about. */
+    void says(String words) {
+        sentence = words;
     }
 
-    void due(String call, String want, String got) {
-        calls++;
-        if (!got.equals(want)) {
-            wrong++;
-            System.out.println(call + " answered '" + got + "', due is '" + want + "'");
-        }
+    void due(String call, long want, long got) {
+        compare(call, "" + want, "" + got);
     }
 
     void due(String call, boolean want, boolean got) {
-        due(call, want ? 1 : 0, got ? 1 : 0);
+        compare(call, "" + want, "" + got);
+    }
+
+    void due(String call, String want, String got) {
+        compare(call, "'" + want + "'", "'" + got + "'");
+    }
+
+    private void compare(String call, String want, String got) {
+        calls++;
+        if (!got.equals(want)) {
+            wrong++;
+            System.out.println((sentence.isEmpty() ? "" : "\"" + sentence + "\": ")
+                + call + " answered " + got + ", due is " + want);
+        }
     }
 
     void end() {
@@ -54,6 +61,29 @@ final class Check {
         return x.read();
     }
 
+    static void draw(PrivateQueries x, int... cells) {
+        for (int i = 0; i < cells.length; i += 2) {
+            x.draws(cells[i], i + 1 < cells.length ? cells[i + 1] : PrivateQueries.NONE);
+        }
+    }
+
+    /** Puts so many cells of no noise behind the tape. */
+    static void drawZeros(PrivateQueries x, int howMany) {
+        draw(x, new int[howMany]);
+    }
+
+    static void rows(PrivateQueries x, int howMany) {
+        for (int i = 0; i < howMany; i++) {
+            x.row(i, 0, 0, 0, 0, 0);
+        }
+    }
+
+    /** An asker and the house get budgets. */
+    static void grant(PrivateQueries x, int asker, int units, int houseUnits) {
+        x.budget(asker, units);
+        x.budget(4, houseUnits);
+    }
+
     static String out(PrivateQueries x, int size) {
         StringBuilder all = new StringBuilder();
         for (int i = 0; i < size; i++) {
@@ -62,13 +92,22 @@ final class Check {
         return all.toString();
     }
 
-    static void draw(PrivateQueries x, int... cells) {
-        for (int i = 0; i < cells.length; i += 2) {
-            x.draws(cells[i], i + 1 < cells.length ? cells[i + 1] : PrivateQueries.NONE);
+    static String told(PrivateQueries x, int numbers) {
+        StringBuilder all = new StringBuilder();
+        for (int i = 0; i < numbers; i++) {
+            all.append(i > 0 ? " " : "").append(x.told(i));
         }
+        return all.toString();
     }
 
-    static String repeat(String part, int times) {
-        return part.repeat(times);
+    /** What a script tells asker 0, who is rich, on a tape of cells of no noise. */
+    static String tell(PrivateQueries x, String text) {
+        int read = read(x, text);
+        if (read < 0) {
+            return "read() " + read;
+        }
+        grant(x, 0, 1000000, 1000000);
+        drawZeros(x, Math.max(0, x.wants(2) - x.count(1)));
+        return told(x, x.run(0));
     }
 }

@@ -1,116 +1,104 @@
-/** Promises 1 (rows), 2 row, 3 drop and 5 count. */
+/** Promises 2 row and 3 drop. */
 public final class TableTest {
     private static final int LEAST = Integer.MIN_VALUE;
     private static final int MOST = Integer.MAX_VALUE;
+    private static final String ENDS = "count where %1$s = - 2147483647 - 1 in 1; count where %1$s = 2147483647 in 1;";
+    private static final String COLUMNS =
+        "bins a from 0 to 4 in 1; bins b from 10 to 14 in 1; bins f from 20 to 24 in 1;";
     private static final Check CHECK = new Check();
 
     public static void main(String[] args) {
-        newObjectHasNothing();
-        rowsAreNumberedFromZero();
-        sixtyRowsAtMost();
-        dropMovesTheRowsAbove();
-        countsOfEachSort();
+        rowsAreNumbered();
+        sixInts();
+        sixtyAtMost();
+        roomAgain();
+        dropAnswersHowMany();
+        dropOfNoRow();
+        rowsAboveMove();
         CHECK.end();
     }
 
-    private static void newObjectHasNothing() {
-        PrivateQueries x = new PrivateQueries(3, 7);
-        for (int what = 0; what <= 5; what++) {
-            CHECK.due("count(" + what + ") of a new object", 0, x.count(what));
-        }
-        for (int whose = 0; whose <= 4; whose++) {
-            CHECK.due("spent of a new object", 0, x.ledger(whose, 0));
-            CHECK.due("left of a new object", 0, x.ledger(whose, 1));
-        }
-        CHECK.due("told(0)", PrivateQueries.NONE, x.told(0));
-        CHECK.due("out(0)", PrivateQueries.NONE, x.out(0));
-        CHECK.due("question(0, 0)", PrivateQueries.UNKNOWN, x.question(0, 0));
-        CHECK.due("wants(0)", PrivateQueries.STATE, x.wants(0));
-        CHECK.due("run(0)", PrivateQueries.STATE, x.run(0));
-        CHECK.due("print()", PrivateQueries.STATE, x.print());
-        CHECK.due("drop(0)", PrivateQueries.UNKNOWN, x.drop(0));
-        CHECK.due("noise(0, 0)", PrivateQueries.SHORT, x.noise(0, 0));
-        CHECK.due("read() of no text", -1000, x.read());
-    }
-
-    private static void rowsAreNumberedFromZero() {
+    private static void rowsAreNumbered() {
+        CHECK.says("A row more: its number.");
         PrivateQueries x = new PrivateQueries(1, 2);
-        CHECK.due("first row", 0, x.row(LEAST, MOST, 0, -1, 1, 2));
-        CHECK.due("second row", 1, x.row(LEAST, MOST, 0, -1, 1, 2));
+        CHECK.due("the first row", 0, x.row(1, 2, 3, 4, 5, 6));
+        CHECK.due("the same again", 1, x.row(1, 2, 3, 4, 5, 6));
         CHECK.due("count(0)", 2, x.count(0));
     }
 
-    private static void sixtyRowsAtMost() {
+    private static void sixInts() {
+        CHECK.says("have six ints, the COLUMNS a .. f");
         PrivateQueries x = new PrivateQueries(1, 2);
-        for (int i = 0; i < 60; i++) {
-            CHECK.due("row " + i, i, x.row(i, 0, 0, 0, 0, i));
+        x.row(LEAST, MOST, LEAST, MOST, LEAST, MOST);
+        for (int column = 0; column < 6; column++) {
+            String name = "" + (char) ('a' + column);
+            CHECK.due("the ends of int in " + name, column % 2 == 0 ? "1 0" : "0 1", Check.tell(x, String.format(ENDS, name)));
         }
-        CHECK.due("row 60", PrivateQueries.ROOM, x.row(0, 0, 0, 0, 0, 0));
-        CHECK.due("count(0)", 60, x.count(0));
-        CHECK.due("drop(60)", PrivateQueries.UNKNOWN, x.drop(60));
-        CHECK.due("drop(59)", 59, x.drop(59));
-        CHECK.due("drop(59) again", PrivateQueries.UNKNOWN, x.drop(59));
-        CHECK.due("drop(0)", 58, x.drop(0));
-        CHECK.due("a row again", 58, x.row(0, 0, 0, 0, 0, 0));
+        PrivateQueries y = new PrivateQueries(1, 2);
+        y.row(1, 2, 3, 4, 5, 6);
+        CHECK.due("each its own", "1", Check.tell(y, "count where a=1 and b=2 and c=3 and d=4 and e=5 and f=6 in 1;"));
     }
 
-    /** Which rows are there is told by bins with cells of no noise. */
-    private static void dropMovesTheRowsAbove() {
+    private static void sixtyAtMost() {
+        CHECK.says("ROWS (60 at most)");
         PrivateQueries x = new PrivateQueries(1, 2);
-        x.budget(0, 1000);
-        x.budget(4, 1000);
+        Check.rows(x, 59);
+        CHECK.due("row 59", 59, x.row(59, 0, 0, 0, 0, 7));
+        CHECK.due("row 60", PrivateQueries.ROOM, x.row(60, 0, 0, 0, 0, 7));
+        CHECK.due("row 60 again", PrivateQueries.ROOM, x.row(0, 0, 0, 0, 0, 7));
+        CHECK.due("count(0)", 60, x.count(0));
+        CHECK.due("only row 59 came", "1", Check.tell(x, "count where f = 7 in 9;"));
+        CHECK.due("and the others are there", "1 1 1 1", Check.tell(x, "bins a from 0 to 1 in 9; bins a from 58 to 59 in 9;"));
+    }
+
+    private static void roomAgain() {
+        CHECK.says("A row is taken away");
+        PrivateQueries x = new PrivateQueries(1, 2);
+        Check.rows(x, 60);
+        x.drop(0);
+        CHECK.due("a row behind the 59 that are left", 59, x.row(0, 0, 0, 0, 0, 0));
+        CHECK.due("full again", PrivateQueries.ROOM, x.row(0, 0, 0, 0, 0, 0));
+        for (int left = 59; left >= 0; left--) {
+            CHECK.due("drop(" + left + ")", left, x.drop(left));
+        }
+        CHECK.due("the first again", 0, x.row(0, 0, 0, 0, 0, 0));
+    }
+
+    private static void dropAnswersHowMany() {
+        CHECK.says("A row is taken away: how many there are.");
+        PrivateQueries x = new PrivateQueries(1, 2);
+        Check.rows(x, 3);
+        CHECK.due("the last one", 2, x.drop(2));
+        CHECK.due("the first one", 1, x.drop(0));
+        CHECK.due("the only one", 0, x.drop(0));
+        CHECK.due("none is left", "0", Check.tell(x, "count in 9;"));
+    }
+
+    private static void dropOfNoRow() {
+        CHECK.says("how many there are. UNKNOWN.");
+        PrivateQueries x = new PrivateQueries(1, 2);
+        CHECK.due("drop(0) of none", PrivateQueries.UNKNOWN, x.drop(0));
+        Check.rows(x, 60);
+        CHECK.due("drop(-1)", PrivateQueries.UNKNOWN, x.drop(-1));
+        CHECK.due("drop(least)", PrivateQueries.UNKNOWN, x.drop(LEAST));
+        CHECK.due("drop(60)", PrivateQueries.UNKNOWN, x.drop(60));
+        CHECK.due("drop(most)", PrivateQueries.UNKNOWN, x.drop(MOST));
+        CHECK.due("drop(59)", 59, x.drop(59));
+        CHECK.due("drop(59) again", PrivateQueries.UNKNOWN, x.drop(59));
+        CHECK.due("drop(58)", 58, x.drop(58));
+    }
+
+    private static void rowsAboveMove() {
+        CHECK.says("when one is taken away those above it get numbers one less");
+        PrivateQueries x = new PrivateQueries(1, 2);
         for (int i = 0; i < 5; i++) {
             x.row(i, 10 + i, 0, 0, 0, 20 + i);
         }
-        CHECK.due("drop(-1)", PrivateQueries.UNKNOWN, x.drop(-1));
-        CHECK.due("drop(least)", PrivateQueries.UNKNOWN, x.drop(LEAST));
-        CHECK.due("drop(most)", PrivateQueries.UNKNOWN, x.drop(MOST));
-        CHECK.due("drop(5)", PrivateQueries.UNKNOWN, x.drop(5));
         CHECK.due("drop(1)", 4, x.drop(1));
-        CHECK.due("drop(1)", 3, x.drop(1));
-        CHECK.due("columns a, b, f of rows 0, 3 and 4", "1001110011" + "10011",
-            bins(x, "bins a from 0 to 4 in 1; bins b from 10 to 14 in 1; bins f from 20 to 24 in 1;"));
-        CHECK.due("drop(2)", 2, x.drop(2));
+        CHECK.due("drop(1), which was 2", 3, x.drop(1));
+        CHECK.due("0, 3 and 4 are left", "1 0 0 1 1 1 0 0 1 1 1 0 0 1 1", Check.tell(x, COLUMNS));
+        CHECK.due("drop(2), which was 4", 2, x.drop(2));
         CHECK.due("drop(0)", 1, x.drop(0));
-        CHECK.due("row 3 is left", "0001000010" + "00010",
-            bins(x, "bins a from 0 to 4 in 1; bins b from 10 to 14 in 1; bins f from 20 to 24 in 1;"));
-        CHECK.due("drop(0)", 0, x.drop(0));
-        CHECK.due("none is left", "00000", bins(x, "bins a from 0 to 4 in 1;"));
-    }
-
-    private static String bins(PrivateQueries x, String text) {
-        Check.read(x, text);
-        int cells = x.wants(2);
-        for (int i = 0; i < cells; i++) {
-            x.draws(0, PrivateQueries.NONE);
-        }
-        int numbers = x.run(0);
-        StringBuilder all = new StringBuilder();
-        for (int i = 0; i < numbers; i++) {
-            all.append(x.told(i));
-        }
-        return all.toString();
-    }
-
-    private static void countsOfEachSort() {
-        PrivateQueries x = new PrivateQueries(1, 2);
-        x.budget(2, 9);
-        x.budget(4, 9);
-        x.row(1, 1, 1, 1, 1, 1);
-        Check.draw(x, 0, 0, 0, 0, 0);
-        CHECK.due("read()", 4, Check.read(x, "let g=a=1;let h=g;count in 0;bins a from 1 to 2 where h in 0;"));
-        Check.type(x, "count");
-        CHECK.due("rows", 1, x.count(0));
-        CHECK.due("cells", 5, x.count(1));
-        CHECK.due("signs", 5, x.count(2));
-        CHECK.due("questions", 2, x.count(3));
-        CHECK.due("lets", 2, x.count(4));
-        CHECK.due("numbers before a run", 0, x.count(5));
-        CHECK.due("run(2)", 3, x.run(2));
-        CHECK.due("numbers told", 3, x.count(5));
-        CHECK.due("cells left", 2, x.count(1));
-        CHECK.due("count(-1)", PrivateQueries.OUTSIDE, x.count(-1));
-        CHECK.due("count(6)", PrivateQueries.OUTSIDE, x.count(6));
-        CHECK.due("count(least)", PrivateQueries.OUTSIDE, x.count(LEAST));
+        CHECK.due("3 is left", "0 0 0 1 0 0 0 0 1 0 0 0 0 1 0", Check.tell(x, COLUMNS));
     }
 }

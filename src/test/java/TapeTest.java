@@ -1,155 +1,223 @@
 import java.util.Arrays;
 
-/** Promises 1 (P and Q), 4 draws and 14 noise. */
+/** Promises 4 draws and 14 noise, with the document's part on noise. */
 public final class TapeTest {
     private static final int LEAST = Integer.MIN_VALUE;
     private static final int MOST = Integer.MAX_VALUE;
+    private static final int[][] PAIRS = {{1, 2}, {2, 5}, {1, 1000}, {999, 1000}, {500, 1000}};
     private static final Check CHECK = new Check();
 
     public static void main(String[] args) {
-        numbersAreBroughtToTheirRanges();
-        drawsOneOrTwo();
-        drawsRefusesWhatIsNoCell();
+        twoCellsOrOne();
+        newCellsComeBehind();
+        leastAndLastCell();
+        oneIsNoCell();
         threeThousandAtMost();
-        noiseOfBlocks();
-        noiseAtTheLimits();
-        noiseOutsideAndShort();
-        noiseTakesNothing();
+        notForAllOfThem();
+        firstCells();
+        cellsBehindTheFirst();
+        oneBehindTheOther();
+        blocksOfEachTop();
+        blocksFromACell();
+        nothingIsTaken();
+        noiseOutside();
+        noiseShort();
         CHECK.end();
     }
 
-    private static void numbersAreBroughtToTheirRanges() {
-        isMade(1, 2, 1, 2);
-        isMade(999, 1000, 999, 1000);
-        isMade(0, 0, 1, 2);
-        isMade(-5, -5, 1, 2);
-        isMade(LEAST, LEAST, 1, 2);
-        isMade(MOST, MOST, 999, 1000);
-        isMade(1000, 1000, 999, 1000);
-        isMade(5, 5, 5, 6);
-        isMade(5, 4, 5, 6);
-        isMade(5, 6, 5, 6);
-        isMade(5, 1001, 5, 1000);
-        isMade(1, 1000, 1, 1000);
-        isMade(MOST, LEAST, 999, 1000);
-        isMade(LEAST, MOST, 1, 1000);
-    }
-
-    /** The shares with TOP 0 and TOP 1 tell P + Q and P, the cells tell Q. */
-    private static void isMade(int p, int q, int dueP, int dueQ) {
-        String name = "PrivateQueries(" + p + ", " + q + ")";
-        PrivateQueries x = new PrivateQueries(p, q);
-        CHECK.due(name + " P + Q", "" + (dueP + dueQ), Check.out(x, x.share(0, 0, 0)));
-        CHECK.due(name + " P Q", "" + dueP * dueQ, Check.out(x, x.share(0, 1, 1)));
-        int cells = dueQ * (dueP + dueQ);
-        CHECK.due(name + " last cell", 1, x.draws(cells - 1, PrivateQueries.NONE));
-        CHECK.due(name + " no cell", PrivateQueries.OUTSIDE, x.draws(cells, PrivateQueries.NONE));
-    }
-
-    private static void drawsOneOrTwo() {
+    private static void twoCellsOrOne() {
+        CHECK.says("Two cells come behind the tape, one if second is NONE: how many it has.");
         PrivateQueries x = new PrivateQueries(1, 2);
         CHECK.due("two", 2, x.draws(0, 5));
         CHECK.due("one", 3, x.draws(5, PrivateQueries.NONE));
-        CHECK.due("two", 5, x.draws(3, 2));
-        CHECK.due("cells", 5, x.count(1));
-        int[] noises = {0, -1, -1, 1, 1};
-        Check.draw(x, 2);
-        for (int i = 0; i < noises.length; i++) {
-            CHECK.due("cell " + i + " in its order", noises[i], x.noise(i, 0));
-        }
+        CHECK.due("two that are alike", 5, x.draws(3, 3));
+        CHECK.due("count(1)", 5, x.count(1));
     }
 
-    private static void drawsRefusesWhatIsNoCell() {
+    private static void newCellsComeBehind() {
+        CHECK.says("new ones come behind it");
         PrivateQueries x = new PrivateQueries(1, 2);
-        CHECK.due("draws(6, 0)", PrivateQueries.OUTSIDE, x.draws(6, 0));
-        CHECK.due("draws(0, 6)", PrivateQueries.OUTSIDE, x.draws(0, 6));
-        CHECK.due("draws(0, -2)", PrivateQueries.OUTSIDE, x.draws(0, -2));
-        CHECK.due("draws(-1, 0)", PrivateQueries.OUTSIDE, x.draws(-1, 0));
-        CHECK.due("draws(-1, -1)", PrivateQueries.OUTSIDE, x.draws(-1, -1));
-        CHECK.due("draws(least, most)", PrivateQueries.OUTSIDE, x.draws(LEAST, MOST));
-        CHECK.due("nothing came", 0, x.count(1));
-        for (int i = 0; i < 500; i++) {
-            x.draws(1, 2);
+        Check.draw(x, 0, 5, 3, 0, 5, 2, 1);
+        int[] noises = {0, -1, 1, 0, -1, 1, 0};
+        for (int i = 0; i < noises.length; i++) {
+            CHECK.due("noise(" + i + ", 0)", noises[i], x.noise(i, 0));
         }
-        CHECK.due("a thousand", 1000, x.count(1));
-        CHECK.due("noise(999, 0)", 1, x.noise(999, 0));
-        CHECK.due("noise(1000, 0)", PrivateQueries.SHORT, x.noise(1000, 0));
     }
 
-    /** No promise holds so many calls of one object, but the tape's limit is told all the same. */
-    private static void threeThousandAtMost() {
+    private static void leastAndLastCell() {
+        CHECK.says("THE TAPE has CELLS, each 0 .. Q (P + Q) - 1");
+        for (int[] pair : PAIRS) {
+            int cells = pair[1] * (pair[0] + pair[1]);
+            PrivateQueries x = new PrivateQueries(pair[0], pair[1]);
+            CHECK.due("the least and the last", 2, x.draws(0, cells - 1));
+            CHECK.due("the last and the least", 4, x.draws(cells - 1, 0));
+            CHECK.due("first one too large", PrivateQueries.OUTSIDE, x.draws(cells, 0));
+            CHECK.due("second one too large", PrivateQueries.OUTSIDE, x.draws(0, cells));
+            CHECK.due("first below 0", PrivateQueries.OUTSIDE, x.draws(-1, 0));
+            CHECK.due("second below NONE", PrivateQueries.OUTSIDE, x.draws(0, -2));
+        }
+    }
+
+    private static void oneIsNoCell() {
+        CHECK.says("OUTSIDE (one is no cell)");
+        PrivateQueries x = new PrivateQueries(1, 2);
+        CHECK.due("draws(6, NONE)", PrivateQueries.OUTSIDE, x.draws(6, PrivateQueries.NONE));
+        CHECK.due("draws(NONE, NONE)", PrivateQueries.OUTSIDE, x.draws(PrivateQueries.NONE, PrivateQueries.NONE));
+        CHECK.due("draws(NONE, 0)", PrivateQueries.OUTSIDE, x.draws(PrivateQueries.NONE, 0));
+        CHECK.due("draws(6, 6)", PrivateQueries.OUTSIDE, x.draws(6, 6));
+        CHECK.due("draws(least, 0)", PrivateQueries.OUTSIDE, x.draws(LEAST, 0));
+        CHECK.due("draws(0, least)", PrivateQueries.OUTSIDE, x.draws(0, LEAST));
+        CHECK.due("draws(most, 0)", PrivateQueries.OUTSIDE, x.draws(MOST, 0));
+        CHECK.due("draws(0, most)", PrivateQueries.OUTSIDE, x.draws(0, MOST));
+        CHECK.due("none came, not even the good ones", 0, x.count(1));
+    }
+
+    /** In 512 calls no tape gets so long, but the limit is told all the same. */
+    private static PrivateQueries almostFull() {
         PrivateQueries x = new PrivateQueries(1, 2);
         for (int i = 0; i < 1499; i++) {
             x.draws(1, 2);
         }
-        CHECK.due("2999", 2999, x.draws(5, PrivateQueries.NONE));
-        CHECK.due("two more", PrivateQueries.ROOM, x.draws(1, 1));
-        CHECK.due("outside comes before", PrivateQueries.OUTSIDE, x.draws(1, 6));
-        CHECK.due("3000", 3000, x.draws(5, PrivateQueries.NONE));
-        CHECK.due("one more", PrivateQueries.ROOM, x.draws(1, PrivateQueries.NONE));
+        return x;
+    }
+
+    private static void threeThousandAtMost() {
+        CHECK.says("3000 at most");
+        PrivateQueries x = almostFull();
+        CHECK.due("two more", 3000, x.draws(3, 5));
         CHECK.due("the last one", -1, x.noise(2999, 0));
+        CHECK.due("one too many", PrivateQueries.ROOM, x.draws(0, PrivateQueries.NONE));
+        CHECK.due("two too many", PrivateQueries.ROOM, x.draws(0, 0));
+        CHECK.due("count(1)", 3000, x.count(1));
     }
 
-    /** P = 2, Q = 5: 0 below 15, above 0 below 25, else below 0; a size goes on below 14. */
-    private static void noiseOfBlocks() {
-        isNoise(0, 0, 0);
-        isNoise(0, 14, 0, 0, 0);
-        isNoise(1, 15, 14, 0, 0);
-        isNoise(1, 24, 14, 0, 0);
-        isNoise(-1, 25, 14, 0, 0);
-        isNoise(-1, 34, 34, 0, 0);
-        isNoise(2, 15, 13, 14, 0);
-        isNoise(3, 15, 13, 0, 20, 0, 0);
-        isNoise(4, 24, 0, 0, 0);
-        isNoise(-4, 25, 13, 13, 13);
-        isNoise(1, 20);
-        isNoise(-1, 30);
-        isNoise(0, 13);
-        isNoise(2, 20, 0);
-        isNoise(-2, 30, 0);
+    private static void notForAllOfThem() {
+        CHECK.says("ROOM (not for all of them)");
+        PrivateQueries x = almostFull();
+        CHECK.due("one", 2999, x.draws(5, PrivateQueries.NONE));
+        CHECK.due("two, with room for one", PrivateQueries.ROOM, x.draws(0, 0));
+        CHECK.due("none of the two came", 2999, x.count(1));
+        CHECK.due("one", 3000, x.draws(3, PrivateQueries.NONE));
+        CHECK.due("the one that came", 1, x.noise(2999, 0));
     }
 
-    private static void isNoise(int want, int... block) {
-        PrivateQueries x = new PrivateQueries(2, 5);
-        Check.draw(x, 20, 20, 20);
+    /** Noise of a block between others, which must not matter. */
+    private static void isNoise(int p, int q, int want, int... block) {
+        PrivateQueries x = new PrivateQueries(p, q);
+        int last = q * (p + q) - 1;
+        Check.draw(x, last, last, last);
         Check.draw(x, block);
         Check.draw(x, 0, 0, 0);
-        CHECK.due("noise of " + Arrays.toString(block), want, x.noise(3, block.length - 1));
+        CHECK.due("P " + p + ", Q " + q + ": noise of " + Arrays.toString(block), want, x.noise(3, block.length - 1));
     }
 
-    private static void noiseAtTheLimits() {
-        PrivateQueries x = new PrivateQueries(999, 1000);
-        Check.draw(x, 1998999);
-        for (int i = 0; i < 30; i++) {
-            Check.draw(x, 999 * 1999 - 1);
+    private static void firstCells() {
+        CHECK.says("its first cell v: Z is 0, if v is below Q (Q - P); above 0, if it is below Q (Q - P) + P Q; else below 0");
+        for (int[] pair : PAIRS) {
+            int p = pair[0];
+            int q = pair[1];
+            int above = q * (q - p);
+            isNoise(p, q, 0, 0);
+            isNoise(p, q, 0, above - 1);
+            isNoise(p, q, 0, above - 1, 0, 0);
+            isNoise(p, q, 1, above);
+            isNoise(p, q, 3, above, 0, 0);
+            isNoise(p, q, 1, above + p * q - 1);
+            isNoise(p, q, 3, above + p * q - 1, 0, 0);
+            isNoise(p, q, -1, above + p * q);
+            isNoise(p, q, -3, above + p * q, 0, 0);
+            isNoise(p, q, -1, q * (p + q) - 1);
+            isNoise(p, q, -3, q * (p + q) - 1, 0, 0);
         }
-        CHECK.due("the longest one", -31, x.noise(0, 30));
-        CHECK.due("from 2", -29, x.noise(2, 28));
-        CHECK.due("one too long", PrivateQueries.SHORT, x.noise(1, 30));
     }
 
-    private static void noiseOutsideAndShort() {
+    private static void cellsBehindTheFirst() {
+        CHECK.says("SIZE, if it is not 0: 1, and 1 for each cell behind the first one");
+        for (int[] pair : PAIRS) {
+            int p = pair[0];
+            int q = pair[1];
+            int above = q * (q - p);
+            int below = above + p * q;
+            int goesOn = p * (p + q) - 1;
+            isNoise(p, q, 2, above, goesOn);
+            isNoise(p, q, 1, above, goesOn + 1);
+            isNoise(p, q, -2, below, goesOn);
+            isNoise(p, q, -1, below, goesOn + 1);
+            isNoise(p, q, 3, above, goesOn, goesOn, goesOn + 1);
+            isNoise(p, q, 4, above, goesOn, goesOn, goesOn);
+            isNoise(p, q, -4, below, goesOn, 0, goesOn);
+        }
+    }
+
+    private static void oneBehindTheOther() {
+        CHECK.says("as long as these one behind the other are below P (P + Q)");
+        isNoise(2, 5, 1, 15, 14, 0, 0);
+        isNoise(2, 5, 2, 15, 13, 14, 0, 0);
+        isNoise(2, 5, -1, 25, 34, 0, 0);
+        isNoise(2, 5, -3, 25, 0, 0, 14, 0, 0);
+    }
+
+    private static void blocksOfEachTop() {
+        CHECK.says("A BLOCK of TOP + 1 cells tells a Z");
+        for (int top = 0; top <= 30; top++) {
+            int[] block = new int[top + 1];
+            block[0] = 3;
+            isNoise(1, 2, top + 1, block);
+            block[0] = 4;
+            isNoise(1, 2, -top - 1, block);
+            block[top] = 3;
+            isNoise(1, 2, top == 0 ? 1 : -top, block);
+        }
+    }
+
+    private static void blocksFromACell() {
+        CHECK.says("Z of the block of top + 1 cells that begins with a cell of the tape (0 the first one; nothing is taken)");
         PrivateQueries x = new PrivateQueries(1, 2);
-        Check.draw(x, 5, 5, 0);
-        CHECK.due("noise(0, -1)", PrivateQueries.OUTSIDE, x.noise(0, -1));
-        CHECK.due("noise(0, 31)", PrivateQueries.OUTSIDE, x.noise(0, 31));
-        CHECK.due("noise(0, most)", PrivateQueries.OUTSIDE, x.noise(0, MOST));
-        CHECK.due("noise(-1, 0)", PrivateQueries.OUTSIDE, x.noise(-1, 0));
-        CHECK.due("noise(-1, 30)", PrivateQueries.OUTSIDE, x.noise(-1, 30));
-        CHECK.due("noise(least, 0)", PrivateQueries.OUTSIDE, x.noise(LEAST, 0));
-        CHECK.due("noise(0, 3)", PrivateQueries.SHORT, x.noise(0, 3));
-        CHECK.due("noise(3, 0)", PrivateQueries.SHORT, x.noise(3, 0));
-        CHECK.due("noise(most, 30)", PrivateQueries.SHORT, x.noise(MOST, 30));
-        CHECK.due("noise(most, 31)", PrivateQueries.OUTSIDE, x.noise(MOST, 31));
-        CHECK.due("noise(0, 2)", -1, x.noise(0, 2));
-        CHECK.due("noise(1, 1)", -2, x.noise(1, 1));
+        Check.draw(x, 5, 2, 2, 0);
+        CHECK.due("noise(0, 3)", -4, x.noise(0, 3));
+        CHECK.due("noise(0, 0)", -1, x.noise(0, 0));
+        CHECK.due("noise(1, 2)", 3, x.noise(1, 2));
+        CHECK.due("noise(1, 0)", 1, x.noise(1, 0));
+        CHECK.due("noise(3, 0)", 0, x.noise(3, 0));
     }
 
-    private static void noiseTakesNothing() {
+    private static void nothingIsTaken() {
+        CHECK.says("nothing is taken");
         PrivateQueries x = new PrivateQueries(1, 2);
         Check.draw(x, 2, 0, 5);
         CHECK.due("noise(0, 2)", 2, x.noise(0, 2));
         CHECK.due("noise(0, 2) again", 2, x.noise(0, 2));
-        CHECK.due("cells", 3, x.count(1));
+        CHECK.due("count(1)", 3, x.count(1));
+    }
+
+    private static void noiseOutside() {
+        CHECK.says("OUTSIDE (top 0 .. 30, or from below 0)");
+        PrivateQueries x = new PrivateQueries(1, 2);
+        Check.drawZeros(x, 40);
+        CHECK.due("noise(0, -1)", PrivateQueries.OUTSIDE, x.noise(0, -1));
+        CHECK.due("noise(0, 0)", 0, x.noise(0, 0));
+        CHECK.due("noise(0, 30)", 0, x.noise(0, 30));
+        CHECK.due("noise(0, 31)", PrivateQueries.OUTSIDE, x.noise(0, 31));
+        CHECK.due("noise(0, least)", PrivateQueries.OUTSIDE, x.noise(0, LEAST));
+        CHECK.due("noise(0, most)", PrivateQueries.OUTSIDE, x.noise(0, MOST));
+        CHECK.due("noise(-1, 0)", PrivateQueries.OUTSIDE, x.noise(-1, 0));
+        CHECK.due("noise(-1, 30)", PrivateQueries.OUTSIDE, x.noise(-1, 30));
+        CHECK.due("noise(least, 0)", PrivateQueries.OUTSIDE, x.noise(LEAST, 0));
+    }
+
+    private static void noiseShort() {
+        CHECK.says("SHORT (they are not all there)");
+        PrivateQueries x = new PrivateQueries(1, 2);
+        CHECK.due("noise(0, 0) of no cells", PrivateQueries.SHORT, x.noise(0, 0));
+        Check.draw(x, 5, 5, 0);
+        CHECK.due("noise(0, 2)", -1, x.noise(0, 2));
+        CHECK.due("noise(0, 3)", PrivateQueries.SHORT, x.noise(0, 3));
+        CHECK.due("noise(1, 1)", -2, x.noise(1, 1));
+        CHECK.due("noise(1, 2)", PrivateQueries.SHORT, x.noise(1, 2));
+        CHECK.due("noise(2, 0)", 0, x.noise(2, 0));
+        CHECK.due("noise(3, 0)", PrivateQueries.SHORT, x.noise(3, 0));
+        CHECK.due("noise(0, 30)", PrivateQueries.SHORT, x.noise(0, 30));
+        CHECK.due("noise(most, 0)", PrivateQueries.SHORT, x.noise(MOST, 0));
+        CHECK.due("noise(most, 30)", PrivateQueries.SHORT, x.noise(MOST, 30));
     }
 }
