@@ -214,6 +214,10 @@ public final class ConditionTest {
         isSum("sum a to 9 by 4 in 30;", 1, 1, 1, 1, 1);
         isSum("sum a to 9 by 4 in 30;", 1, 3, 4);
         isSum("sum a to 9 by 1000 in 30;", 0, 9, 9, 9);
+        PrivateQueries x = new PrivateQueries(1, 2);
+        x.row(9, 0, 0, 0, 0, 0);
+        CHECK.due("each by its own", "9 4 1 0 1 2 9", Check.tell(x, "sum a to 9 in 30;sum a to 9 by 2 in 30;"
+            + "count in 30;bins a from 8 to 9 in 30;sum a to 9 by 4 in 30;sum a to 9 by 1 in 30;"));
         int[] most = new int[60];
         Arrays.fill(most, MOST);
         isSum("sum a to 1 by 2 in 30;", 30, most);

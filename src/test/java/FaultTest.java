@@ -118,6 +118,7 @@ public final class FaultTest {
         String ten = ReadCheck.lets(10);
         isRead(ten, 10);
         isRead(ten + "count in 0;", 11);
+        CHECK.says("let or the word of a question, if there would be more of these than told");
         fails(ten + "!let q=a=1;");
         fails(ten + "!let");
         fails(ten + "!let g=a=1;");
@@ -130,12 +131,13 @@ public final class FaultTest {
         String three = "count in 0;sum a to 1 in 0;bins a from 1 to 1 in 0;";
         isRead(three.repeat(4), 12);
         isRead(three.repeat(4) + "let g=a=1;", 13);
+        isRead("count in 0;".repeat(12), 12);
+        CHECK.says("let or the word of a question, if there would be more of these than told");
         fails(three.repeat(4) + "!count in 0;");
         fails(three.repeat(4) + "!sum a to 1 in 0;");
         fails(three.repeat(4) + "!bins a from 1 to 1 in 0;");
         fails(three.repeat(4) + "!count");
         fails(three.repeat(4) + "let g=a=1;!sum a to 1 in 0;");
-        isRead("count in 0;".repeat(12), 12);
         fails("count in 0;".repeat(12) + "!count in 0;");
         fails("count in 0;".repeat(12) + "!in 0;");
         fails(ReadCheck.lets(10) + "count in 0;".repeat(12) + "!count in 0;");

@@ -99,9 +99,10 @@ public final class QuestionTest {
         CHECK.due("question(0, 0) without a script", PrivateQueries.UNKNOWN, x.question(0, 0));
         Check.read(x, "let g = a = 1;");
         CHECK.due("question(0, 0) of lets alone", PrivateQueries.UNKNOWN, x.question(0, 0));
-        Check.read(x, "count in 0;".repeat(11) + "count in 7;");
+        Check.read(x, "count in 0;".repeat(10) + "count in 6;count in 7;");
         CHECK.due("question(-1, 3)", PrivateQueries.UNKNOWN, x.question(-1, 3));
         CHECK.due("question(0, 3)", 0, x.question(0, 3));
+        CHECK.due("question(10, 3)", 6, x.question(10, 3));
         CHECK.due("question(11, 3)", 7, x.question(11, 3));
         CHECK.due("question(12, 3)", PrivateQueries.UNKNOWN, x.question(12, 3));
         CHECK.due("question(least, 3)", PrivateQueries.UNKNOWN, x.question(LEAST, 3));

@@ -30,6 +30,7 @@ public final class ReadTest {
         notOneToken();
         howManyStatements();
         takesThePlace();
+        nothingIsLeft();
         faultsLeaveTheScript();
         placesOfFaults();
         CHECK.end();
@@ -84,6 +85,8 @@ public final class ReadTest {
         fails("let g = !;");
         fails("let g = a = 1 !in 3;");
         fails("let g = a = 1 !where a = 1;");
+        fails("let !;");
+        fails("let g !;");
     }
 
     private static void counts() {
@@ -95,6 +98,7 @@ public final class ReadTest {
         fails("count !to 2 in 3;");
         fails("count in!");
         fails("count in !a;");
+        fails("count in !;");
         fails("count in !-1;");
         fails("count in 3 !3;");
         fails("count in 3 !+ 1;");
@@ -114,6 +118,9 @@ public final class ReadTest {
         fails("sum a to !- 1 in 3;");
         fails("sum a to !a in 3;");
         fails("sum a to 3 !to 3 in 3;");
+        fails("sum !;");
+        fails("sum a !;");
+        fails("sum a to !;");
         fails("sum a to 3 !;");
         fails("sum a to 3 by 2 where a = 1 !;");
     }
@@ -130,13 +137,21 @@ public final class ReadTest {
         fails("bins a from 1 to !in 3;");
         fails("bins a from 1 to 1 !by 2 in 3;");
         fails("bins a from 1 !+ 1 to 1 in 3;");
+        fails("bins !;");
+        fails("bins a !;");
+        fails("bins a from !;");
+        fails("bins a from 1 !;");
+        fails("bins a from 1 to !;");
         fails("bins a from 1 to 1 !;");
     }
 
     private static void whereOrNothing() {
         CHECK.says("WHERE: nothing, or where COND.");
         fails("count where!");
+        fails("count where !;");
         fails("count where !in 3;");
+        fails("count where a !;");
+        fails("count where a = !;");
         fails("count where a = 1!");
         fails("count where a = 1 !;");
         fails("count where a = 1 !where a = 1 in 3;");
@@ -149,6 +164,7 @@ public final class ReadTest {
         CHECK.says("BY: nothing, or by N.");
         isRead("sum b to 1 by 1 in 0;", 1);
         fails("sum a to 3 by!");
+        fails("sum a to 3 by !;");
         fails("sum a to 3 by !in 3;");
         fails("sum a to 3 by !-1 in 3;");
         fails("sum a to 3 by 2 !by 2 in 3;");
@@ -411,6 +427,22 @@ public final class ReadTest {
         CHECK.due("and none is used up", 1, Check.read(x, "let g = a = 2;"));
         CHECK.due("a third one", 2, Check.read(x, "count in 5;count in 6;"));
         CHECK.due("its words", "count in 5 ; count in 6 ;", Check.out(x, x.print()));
+    }
+
+    /** Each is read twice before, whichever place the script is held in. */
+    private static void nothingIsLeft() {
+        CHECK.says("which takes the place of the one before");
+        String[] before = {"bins b from 5 to 9 where a = 9 in 3;".repeat(4), "sum b to 1 by 4 where a = 9 in 3;".repeat(4),
+            "let g = a = 9;" + "count where g in 3;".repeat(4), "bins b from -9 to -5 in 3;".repeat(4) + "count in"};
+        for (String text : before) {
+            PrivateQueries x = new PrivateQueries(1, 2);
+            x.row(2, 7, 0, 0, 0, 0);
+            Check.read(x, text);
+            Check.read(x, text);
+            CHECK.due("behind '" + text + "'", "2 1 1 2",
+                Check.tell(x, "sum a to 9 in 9;count in 9;bins a from 2 to 2 in 9;sum a to 9 in 9;"));
+            CHECK.due("units behind '" + text + "'", 20, x.wants(0));
+        }
     }
 
     private static void faultsLeaveTheScript() {

@@ -19,7 +19,7 @@ public final class TableTest {
     }
 
     private static void rowsAreNumbered() {
-        CHECK.says("A row more: its number.");
+        CHECK.says("rows are numbered from 0");
         PrivateQueries x = new PrivateQueries(1, 2);
         CHECK.due("the first row", 0, x.row(1, 2, 3, 4, 5, 6));
         CHECK.due("the same again", 1, x.row(1, 2, 3, 4, 5, 6));
