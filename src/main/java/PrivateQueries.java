@@ -620,7 +620,7 @@ public final class PrivateQueries {
                     continue;
                 }
                 int length = cutOne(text, place);
-                if (length == 0) {
+                if (length < 1) {
                     put(BAD, 0, place);
                     return;
                 }

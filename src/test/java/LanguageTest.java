@@ -39,7 +39,15 @@ public final class LanguageTest {
             String name = found.group(2).trim();
             check.due(name + " has few parameters", true, found.group(3).split(",").length <= 7);
             check.due(name + " is short", true, found.group(4).split("\n").length <= 60);
+            boolean constructor = name.matches("(public )?[A-Z]\\w*");
+            check.due(name + " makes nothing but a parser", "", constructor ? "" : made(found.group(4)));
         }
         check.due("methods were found", true, methods > 60);
+    }
+
+    /** What a method makes with new, beside the one small object that a reading wants. */
+    private static String made(String body) {
+        Matcher found = Pattern.compile("\\bnew (?!Parser\\b)\\w+").matcher(body);
+        return found.find() ? found.group() : "";
     }
 }
